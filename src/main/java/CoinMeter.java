@@ -94,7 +94,7 @@ public final class CoinMeter {
             case 7: return m.usedToday;
             case 8: return m.dark;
             case 9: return m.behind;
-            case 10: return now.laws.loadedOf(m, now.hour);
+            case 10: return m.loadedUnder(now.laws.ruling(RATE, now.hour));
             case 11: return m.limit();
             default: return finding(BEYOND);
         }
@@ -258,9 +258,10 @@ public final class CoinMeter {
             return finding(BEYOND);
         }
         Meter m = now.meters[meter];
+        int ruling = now.laws.ruling(RATE, now.hour);
         switch (what) {
-            case 0: return now.laws.unitPrice(now.laws.ruling(RATE, now.hour), m, now.hour);
-            case 1: return now.laws.unitPrice(now.laws.loadedOf(m, now.hour), m, now.hour);
+            case 0: return now.laws.unitPrice(ruling, m, now.hour);
+            case 1: return now.laws.unitPrice(m.loadedUnder(ruling), m, now.hour);
             case 2: return now.laws.standingOf(m, now.hour);
             default: return finding(BEYOND);
         }
@@ -586,7 +587,7 @@ public final class CoinMeter {
         int usedToday;
         int dark;
         int behind;
-        /** For SMART and GUARDED ones this isn't asked: see Laws.loadedOf. */
+        /** Not asked of SMART and GUARDED ones: see loadedUnder. */
         int loaded;
 
         /** Sets every field, for a row may be used again behind a restore. */
@@ -641,6 +642,11 @@ public final class CoinMeter {
 
         boolean isSmart() {
             return kind == SMART || kind == GUARDED;
+        }
+
+        /** The LAW that it has LOADED while one is in force, or none: -1. */
+        int loadedUnder(int ruling) {
+            return isSmart() ? ruling : loaded;
         }
 
         int limit() {
@@ -894,10 +900,6 @@ public final class CoinMeter {
             return -1;
         }
 
-        int loadedOf(Meter m, int hour) {
-            return m.isSmart() ? ruling(RATE, hour) : m.loaded;
-        }
-
         int unitPrice(int law, Meter m, int hour) {
             return has(law) ? within(0, worth(law, m, hour, 0), 99) : 20;
         }
@@ -925,26 +927,18 @@ public final class CoinMeter {
             int top = 0;
             for (int i = 0; i < length[law]; i++) {
                 int code = codes[first + i];
-                if (code == -'!' && top >= 1) {
+                boolean isName = code <= -'a' && code >= -'z';
+                if ((code >= 0 || isName) && top < stack.length) {
+                    stack[top] = isName ? named(-code, m, hour, n) : code;
+                    top++;
+                } else if (code == -'!' && top >= 1) {
                     stack[top - 1] = stack[top - 1] == 0 ? 1 : 0;
-                } else if (isJoining(-code) && top >= 2) {
+                } else if (top >= 2) {
                     top--;
                     stack[top - 1] = joined(stack[top - 1], -code, stack[top]);
-                } else if (top < stack.length) {
-                    stack[top] = code >= 0 ? code : named(-code, m, hour, n);
-                    top++;
                 }
             }
             return stack[0];
-        }
-
-        private static boolean isJoining(int sign) {
-            switch (sign) {
-                case '|': case '&': case '<': case '=': case '>': case '+': case '-': case '*': case '/':
-                    return true;
-                default:
-                    return false;
-            }
         }
 
         private static int joined(int a, int sign, int b) {
@@ -1154,8 +1148,8 @@ public final class CoinMeter {
         /** Both prices are asked ahead of any change, for laws may ask for CREDIT and USED TODAY. */
         private void useLoad(Meter m, int in) {
             int units = m.loads[in % DAY_HOURS];
-            int loaded = laws.loadedOf(m, in);
             int ruling = laws.ruling(RATE, in);
+            int loaded = m.loadedUnder(ruling);
             int price = laws.unitPrice(loaded, m, in);
             int due = ruling == loaded ? price : laws.unitPrice(ruling, m, in);
             m.credit -= units * price;
@@ -1181,7 +1175,7 @@ public final class CoinMeter {
         }
 
         void copyFrom(Town other) {
-            for (int i = 0; i < MOST_METERS; i++) {
+            for (int i = 0; i < other.meterCount; i++) {
                 meters[i].copyFrom(other.meters[i]);
             }
             shops.copyFrom(other.shops);

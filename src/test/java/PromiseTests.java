@@ -501,7 +501,7 @@ public final class PromiseTests {
             {"1<2", 1}, {"2<1", 0}, {"2=2", 1},
         };
         Object[][] last = {
-            {"2>1", 1}, {"1>1", 0}, {"!1+1", 1}, {"1|0&0", 1}, {"1+1=2", 1}, {"1&2=2", 1},
+            {"2>1", 1}, {"1>1", 0}, {"1=2", 0}, {"2<2", 0}, {"!1+1", 1}, {"1|0&0", 1}, {"1+1=2", 1}, {"1&2=2", 1},
             {"9999*9999*9999", 9999 * 9999 * 9999}, {"(0-8)*8192*8192*4/(0-1)", MIN}, {"5/0*0|3-3", 0}, {"!h=0", 1},
         };
         for (Object[][] list : new Object[][][] {texts, more, last}) {
@@ -518,6 +518,11 @@ public final class PromiseTests {
         due(17, "says(0, 1, 0)", x.says(0, 1, 0), BEYOND);
         due(17, "says(-1, 0, 0)", x.says(-1, 0, 0), BEYOND);
         due(17, "says(1, 0, 0)", x.says(1, 0, 0), BEYOND);
+        law(x, 0, 0, "d");
+        for (int day = 1; day <= 15; day++) {
+            due(17, "WEEKDAY of DAY " + day, x.says(1, 0, 0), day % 7);
+            x.go(24);
+        }
     }
 
     private static void rate() {
@@ -837,6 +842,16 @@ public final class PromiseTests {
         y.put(1, 0, 40000);
         due(22, "40000 is below 0 of 16 bits", y.hold(0, 1, 1, 0), 14);
 
+        // CUT at -1 in HOUR 9, it is on again by one penny until the HOUR is over.
+        CoinMeter v = one(1);
+        v.top(0, 0, 209);
+        v.go(9);
+        due(22, "CUT at -1", v.hold(0, 0, 1, 0), NONE);
+        v.sheet(0, 8, 1);
+        due(22, "CUT at -1", v.hold(0, 0, 1, 0), 24);
+        v.put(0, 0, 1);
+        due(22, "topped up by 1", v.hold(0, 0, 1, 0), 23);
+
         // TAKE works in HOLDING, too, and so do laws that come later.
         CoinMeter z = one(2);
         z.sheet(0, 16, 2);
@@ -943,6 +958,13 @@ public final class PromiseTests {
         y.shop(500, 24);
         due(24, "fewest(5, 0)", y.fewest(5, 0), 4);
         due(24, "fewest(4, 0)", y.fewest(4, 0), 3);
+        CoinMeter z = new CoinMeter();
+        for (int i = 0; i < 8; i++) {
+            z.meter(0, 300 * i);
+            z.shop(300 * i, 24);
+        }
+        due(24, "fewest(2, 0): each home its own", z.fewest(2, 0), 255);
+        due(24, "fewest(3, 0)", z.fewest(3, 0), 1 + 8 + 64);
     }
 
     private static void voices() {
