@@ -89,7 +89,7 @@ public final class BoundaryTests {
         moves();
         images();
         toldAndFound();
-        System.out.println(wrong == 0 ? tests + " sentences hold" : wrong + " answers are not as due");
+        System.out.println(wrong == 0 ? tests + " tests of the document's sentences hold" : wrong + " answers are not as due");
         if (wrong != 0) {
             System.exit(1);
         }
